@@ -133,6 +133,8 @@ public final class ActionsTest {
         CHECK.isBadState("P13 resolve(1, 0, 0): the wrong way round", () -> x.resolve(1, 0, 0));
         CHECK.isBadState("P13 resolve(0, 1, 1): only in one", () -> x.resolve(0, 1, 1));
         CHECK.isBadState("P13 resolve(0, 1, 7): only in N of the first", () -> x.resolve(0, 1, 7));
+        CHECK.isBadState("P13 resolve(4, 1, 0): A in both", () -> x.resolve(4, 1, 0));
+        CHECK.isBadState("P13 resolve(0, 3, 0): a in both", () -> x.resolve(0, 3, 0));
         CHECK.isBadState("P13 resolve(0, 0, 0): twice the same", () -> x.resolve(0, 0, 0));
         CHECK.isBadState("P13 resolve(2, 1, 0): a parity first", () -> x.resolve(2, 1, 0));
         CHECK.isBadState("P13 resolve(0, 2, 0): a parity second", () -> x.resolve(0, 2, 0));

@@ -41,6 +41,16 @@ public final class ModelsTest {
         CHECK.due("P25 modelCount() after undo", x.modelCount(), 96);
         CHECK.due("P25 modelCount() of =0a..h", Calls.loaded("=0abcdefgh;").modelCount(), 128);
         CHECK.due("P25 modelCount() of one model", Calls.loaded("a;b;c;d;E;F;G;H;").modelCount(), 1);
+        CnfXorSolver zero = Calls.loaded("A;B;C;D;E;F;G;H;");
+        CHECK.due("P25 modelCount() of all false", zero.modelCount(), 1);
+        CHECK.due("P26 model(0) of all false", zero.model(0), 0);
+        CHECK.due("P29 core() of all false", zero.core(), NONE);
+        CHECK.due("P27 impliesClause(255, 0) of all false", zero.impliesClause(255, 0), false);
+        CHECK.due("P28 impliesParity(255, 1) of all false", zero.impliesParity(255, 1), false);
+        CnfXorSolver last = Calls.loaded("a;b;c;d;e;f;g;h;");
+        CHECK.due("P26 model(0) of all true", last.model(0), 255);
+        CHECK.due("P29 core() of all true", last.core(), NONE);
+        CHECK.due("P27 impliesClause(0, 255) of all true", last.impliesClause(0, 255), false);
         CHECK.due("P26 model(0) of it", Calls.loaded("a;b;c;d;E;F;G;H;").model(0), 15);
     }
 
@@ -125,6 +135,13 @@ public final class ModelsTest {
         CHECK.due("P32 eliminatedRow(-1)", x.eliminatedRow(-1), NONE);
         CHECK.due("P32 eliminatedRow(least)", x.eliminatedRow(Integer.MIN_VALUE), NONE);
         CHECK.due("P32 eliminatedRow(greatest)", x.eliminatedRow(Integer.MAX_VALUE), NONE);
+        x.removeConstraint(5);
+        CHECK.due("P32 eliminatedRow(1) after a removal", x.eliminatedRow(1), 256 * 1 + 8 + 4 + 2);
+        CHECK.due("P32 eliminatedRow(3) after a removal", x.eliminatedRow(3), NONE);
+        x.addParity(8, 0);
+        CHECK.due("P31 isConsistent() with d = 0", x.isConsistent(), true);
+        x.addParity(8, 1);
+        CHECK.isBadState("P32 eliminatedRow(0) with d = 0 and d = 1", () -> x.eliminatedRow(0));
         CnfXorSolver clauses = Calls.loaded("a;A;");
         CHECK.due("P30 rank() of clauses", clauses.rank(), 0);
         CHECK.due("P31 isConsistent() of clauses", clauses.isConsistent(), true);

@@ -6,6 +6,7 @@ public final class SlotsTest {
         refused();
         saveAndRestore();
         slotKeepsItsState();
+        decisionsComeBack();
         restoreForgets();
         CHECK.end();
     }
@@ -62,6 +63,31 @@ public final class SlotsTest {
         x.removeConstraint(0);
         CHECK.due("P35 restore(0)", x.restore(0), 1);
         CHECK.due("P35 negated(0)", x.negated(0), 3);
+    }
+
+    private static void decisionsComeBack() {
+        CnfXorSolver x = new CnfXorSolver();
+        x.decide(0);
+        x.decide(3);
+        x.save(0);
+        x.backtrack(0);
+        x.decide(14);
+        x.decide(12);
+        x.decide(10);
+        x.undo();
+        CHECK.due("P18 value(7) after undo", x.value(7), CnfXorSolver.TRUE);
+        x.undo();
+        x.undo();
+        x.undo();
+        CHECK.due("P18 value(0) after undo", x.value(0), CnfXorSolver.TRUE);
+        CHECK.due("P18 trailLiteral(1) after undo", x.trailLiteral(1), 3);
+        x.backtrack(0);
+        x.decide(9);
+        x.restore(0);
+        CHECK.due("P35 level()", x.level(), 2);
+        CHECK.due("P35 trailLiteral(0)", x.trailLiteral(0), 0);
+        CHECK.due("P35 trailLiteral(1)", x.trailLiteral(1), 3);
+        CHECK.due("P35 value(4)", x.value(4), CnfXorSolver.UNASSIGNED);
     }
 
     private static void restoreForgets() {

@@ -150,6 +150,8 @@ public final class TextTest {
         CHECK.due("P5 a refused load forgets nothing", x.undo(), 1);
         x.clearText();
         Calls.type(x, "ab;");
+        x.decide(6);
+        CHECK.due("P19 level() before load", x.level(), 1);
         CHECK.due("P5 load()", x.load(), 1);
         CHECK.due("P5 no decisions", x.level(), 0);
         CHECK.due("P5 nothing assigned", x.value(0), CnfXorSolver.UNASSIGNED);

@@ -58,6 +58,9 @@ public final class TrailTest {
         later.decide(0);
         CHECK.due("P23 conflict()", later.conflict(), 1);
         CHECK.due("P20 value(2): propagation ended", later.value(2), CnfXorSolver.UNASSIGNED);
+        CnfXorSolver longest = Calls.loaded("a;Ab;Bc;Cd;De;Ef;Fg;Gh;AH;");
+        CHECK.due("P23 conflict() with all assigned", longest.conflict(), 8);
+        CHECK.due("P21 trailLiteral(7)", longest.trailLiteral(7), 14);
         CHECK.due("P23 no conflict", new CnfXorSolver().conflict(), NONE);
     }
 
