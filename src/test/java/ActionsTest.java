@@ -281,32 +281,55 @@ public final class ActionsTest {
         CHECK.due("P17 level() then", full.level(), 1);
     }
 
-    private static void undo() {
-        CnfXorSolver x = Calls.loaded("=1ab;=1bc;bD;Be;");
-        String[] seen = new String[7];
-        seen[0] = Calls.seen(x);
-        x.addClause(128, 64);
-        seen[1] = Calls.seen(x);
-        x.addParity(48, 1);
-        seen[2] = Calls.seen(x);
-        x.sum(0, 1);
-        seen[3] = Calls.seen(x);
-        x.resolve(2, 3, 1);
-        seen[4] = Calls.seen(x);
-        x.decide(0);
-        seen[5] = Calls.seen(x);
-        x.removeConstraint(0);
-        seen[6] = Calls.seen(x);
-        x.backtrack(0);
-        x.append('b');
-        x.clearText();
-        Calls.type(x, "=1ab;=1bc;bD;Be;");
-        for (int i = 6; i >= 0; i--) {
-            CHECK.due("P18 undo() to " + i, x.undo(), i);
-            CHECK.due("P18 what is seen at " + i, Calls.seen(x), seen[i]);
+    private static void act(CnfXorSolver x, int step) {
+        switch (step) {
+            case 0:
+                x.addClause(128, 64);
+                break;
+            case 1:
+                x.addParity(48, 1);
+                break;
+            case 2:
+                x.sum(0, 1);
+                break;
+            case 3:
+                x.resolve(2, 3, 1);
+                break;
+            case 4:
+                x.decide(0);
+                break;
+            case 5:
+                x.removeConstraint(0);
+                break;
+            default:
+                x.backtrack(0);
+                break;
         }
+    }
+
+    private static CnfXorSolver acted(int steps) {
+        CnfXorSolver x = Calls.loaded("=1ab;=1bc;bD;Be;");
+        for (int step = 0; step < steps; step++) {
+            act(x, step);
+        }
+        return x;
+    }
+
+    private static void undo() {
+        for (int i = 6; i >= 0; i--) {
+            CnfXorSolver x = acted(7);
+            x.append('b');
+            x.clearText();
+            Calls.type(x, "=1ab;=1bc;bD;Be;");
+            for (int left = 6; left >= i; left--) {
+                CHECK.due("P18 undo() to " + left, x.undo(), left);
+            }
+            CHECK.due("P18 what is seen at " + i, Calls.seen(x), Calls.seen(acted(i)));
+        }
+        CnfXorSolver x = acted(1);
+        x.undo();
         CHECK.isBadState("P18 undo() too often", () -> x.undo());
-        CHECK.due("P18 a refused undo changes nothing", Calls.seen(x), seen[0]);
+        CHECK.due("P18 a refused undo changes nothing", Calls.seen(x), Calls.seen(acted(0)));
         x.addClause(1, 0);
         CHECK.due("P18 undo() of a later action", x.undo(), 0);
     }

@@ -55,4 +55,21 @@ final class Calls {
         s.append(" solve ").append(x.solve());
         return s.toString();
     }
+
+    /** What is seen, and what else an object holds: its remembered states, its slots, its text. Changes the object. */
+    static String story(CnfXorSolver x) {
+        StringBuilder s = new StringBuilder(seen(x));
+        for (int i = 0; i < 15; i++) {
+            s.append(" undo ").append(Check.outcome(() -> x.undo())).append(brief(x));
+        }
+        for (int slot = 0; slot < 2; slot++) {
+            int at = slot;
+            s.append(" restore ").append(Check.outcome(() -> x.restore(at))).append(brief(x));
+        }
+        return s.append(" text ").append(x.clearText()).toString();
+    }
+
+    private static String brief(CnfXorSolver x) {
+        return "/" + x.constraintCount() + "/" + x.level() + "/" + Check.outcome(() -> x.variables(x.constraintCount() - 1));
+    }
 }

@@ -4,21 +4,35 @@ final class Check {
         long run();
     }
 
+    private final String place;
+    private int made = 0;
     private int wrong = 0;
 
+    Check() {
+        this("");
+    }
+
+    /** The place stands before each line that is told. */
+    Check(String place) {
+        this.place = place;
+    }
+
     void due(String call, long got, long want) {
+        made++;
         if (got != want) {
             tell(call + " answered " + got + ", due is " + want);
         }
     }
 
     void due(String call, boolean got, boolean want) {
+        made++;
         if (got != want) {
             tell(call + " answered " + got + ", due is " + want);
         }
     }
 
     void due(String call, String got, String want) {
+        made++;
         if (!got.equals(want)) {
             tell(call + " answered " + got + ", due is " + want);
         }
@@ -48,8 +62,16 @@ final class Check {
     private void tell(String line) {
         wrong++;
         if (wrong <= 40) {
-            System.out.println(line);
+            System.out.println(place + line);
         }
+    }
+
+    int made() {
+        return made;
+    }
+
+    int wrong() {
+        return wrong;
     }
 
     void end() {

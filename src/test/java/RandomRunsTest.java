@@ -3,10 +3,12 @@
  * Four kinds of runs lean to small clauses, to parities, to full formulas and to texts.
  */
 public final class RandomRunsTest {
-    private static final int RUNS = 1200, CALLS = 512, KINDS = 5;
+    /** An object is promised 512 calls; one step makes less than 40. */
+    private static final int RUNS = 4000, LAST_STEP = 472, KINDS = 5;
     private static final Check CHECK = new Check();
 
     private long seed;
+    private int calls = 0;
     private final int kind;
     private final CnfXorSolver x = new CnfXorSolver();
     private final Reference r = new Reference();
@@ -19,8 +21,8 @@ public final class RandomRunsTest {
     public static void main(String[] args) {
         for (int run = 0; run < RUNS; run++) {
             RandomRunsTest test = new RandomRunsTest(run);
-            for (int call = 0; call < CALLS; call++) {
-                test.step("run " + run + " call " + call + " ");
+            while (test.calls < LAST_STEP) {
+                test.step("run " + run + " call " + test.calls + " ");
             }
         }
         CHECK.end();
@@ -32,6 +34,7 @@ public final class RandomRunsTest {
     }
 
     private void same(String call, Check.Call got, Check.Call want) {
+        calls++;
         CHECK.due(call, Check.outcome(got), Check.outcome(want));
     }
 

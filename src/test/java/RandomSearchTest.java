@@ -3,7 +3,8 @@
  * nothing is left to do: each trail, conflict, learned clause and backjump against Reference.
  */
 public final class RandomSearchTest {
-    private static final int RUNS = 3000;
+    /** An object is promised 512 calls: filling, ten steps of search and five undos make less. */
+    private static final int RUNS = 8000, STEPS = 10, UNDOS = 5;
     private static final Check CHECK = new Check();
     private static int learnedInAll = 0;
 
@@ -58,8 +59,8 @@ public final class RandomSearchTest {
         fill();
         CHECK.due(where + "solve()", x.solve(), r.solve());
         CHECK.due(where + "core()", x.core(), r.core());
-        for (int step = 0; step < 60 && (r.conflict() == CnfXorSolver.NONE || r.level() > 0); step++) {
-            if (step % 20 == 19) {
+        for (int step = 0; step < STEPS && (r.conflict() == CnfXorSolver.NONE || r.level() > 0); step++) {
+            if (step % 8 == 7) {
                 CHECK.due(where + "backtrack(0)", x.backtrack(0), r.backtrack(0));
             } else if (r.conflict() == CnfXorSolver.NONE) {
                 int literal = below(16);
@@ -74,7 +75,7 @@ public final class RandomSearchTest {
             }
             trail(where + "step " + step + " ");
         }
-        for (int k = 0; k < 15; k++) {
+        for (int k = 0; k < UNDOS; k++) {
             CHECK.due(where + "undo", Check.outcome(() -> x.undo()), Check.outcome(() -> r.undo()));
             trail(where + "undo " + k + " ");
         }
