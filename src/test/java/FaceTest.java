@@ -12,13 +12,6 @@ import java.util.TreeSet;
 /** The face of the document, no more and no less, and some rules of LANGUAGE.md that a text shows. */
 public final class FaceTest {
     private static final Check CHECK = new Check();
-    private static final String FACE = "append int clearText errorPosition load constraintCount isParity int variables int "
-            + "negated int addClause int int addParity int int removeConstraint int resolve int int int sum int int "
-            + "decide int backtrack int learn undo level value int trailLiteral int reason int conflict learnedClause "
-            + "modelCount model int impliesClause int int impliesParity int int core rank isConsistent "
-            + "eliminatedRow int solve save int restore int ";
-    private static final String BOOLEANS = " isParity impliesClause impliesParity isConsistent ";
-
     public static void main(String[] args) throws IOException {
         publicMethods();
         otherMembers();
@@ -27,34 +20,44 @@ public final class FaceTest {
         CHECK.end();
     }
 
-    private static void publicMethods() {
-        TreeSet<String> want = new TreeSet<>();
-        StringBuilder one = new StringBuilder();
-        for (String word : FACE.split(" ")) {
-            if (!word.equals("int") && one.length() > 0) {
-                want.add(one.toString());
-                one.setLength(0);
+    /** The lines of the document's face that tell a method, without the names of the parameters. */
+    private static TreeSet<String> facesOfDocument() throws IOException {
+        TreeSet<String> faces = new TreeSet<>();
+        for (String line : Files.readString(Path.of("../shared/DOC.md")).split("\n")) {
+            if (line.matches("    public (int|boolean) \\w+\\(.*;")) {
+                String face = line.trim().replaceAll("^public |;$", "").replaceAll("int \\w+([,)])", "int$1");
+                faces.add(face.contains(" throws ") ? face : face + " throws ");
             }
-            one.append(word).append(' ');
         }
-        want.add(one.toString());
+        return faces;
+    }
+
+    private static String face(Method m) {
+        StringBuilder parameters = new StringBuilder();
+        for (Class<?> c : m.getParameterTypes()) {
+            parameters.append(parameters.length() == 0 ? "" : ", ").append(c.getName());
+        }
+        StringBuilder thrown = new StringBuilder();
+        for (Class<?> c : m.getExceptionTypes()) {
+            thrown.append(thrown.length() == 0 ? "" : ", ").append(c.getSimpleName());
+        }
+        return m.getReturnType().getName() + " " + m.getName() + "(" + parameters + ") throws " + thrown;
+    }
+
+    private static void publicMethods() throws IOException {
+        TreeSet<String> want = facesOfDocument();
+        CHECK.due("methods in the document", want.size(), 34);
         TreeSet<String> got = new TreeSet<>();
         TreeSet<String> publicNames = new TreeSet<>();
         TreeSet<String> privateNames = new TreeSet<>();
         for (Method m : CnfXorSolver.class.getDeclaredMethods()) {
-            if (!Modifier.isPublic(m.getModifiers())) {
+            if (Modifier.isPublic(m.getModifiers())) {
+                publicNames.add(m.getName());
+                got.add(face(m));
+            } else {
                 CHECK.due("rule 1: private is " + m.getName(), Modifier.isPrivate(m.getModifiers()), true);
                 privateNames.add(m.getName());
-                continue;
             }
-            publicNames.add(m.getName());
-            StringBuilder face = new StringBuilder(m.getName()).append(' ');
-            for (Class<?> c : m.getParameterTypes()) {
-                face.append(c.getName()).append(' ');
-            }
-            got.add(face.toString());
-            boolean isBoolean = BOOLEANS.contains(" " + m.getName() + " ");
-            CHECK.due("the type of " + m.getName(), m.getReturnType().getName(), isBoolean ? "boolean" : "int");
         }
         CHECK.due("the public methods", got.toString(), want.toString());
         privateNames.retainAll(publicNames);
